@@ -787,16 +787,16 @@ public final class FlashVault {
     private boolean roomMade() {
         try {
             if (versions.aloneCount >= SPILL_AT) {
-                tables.spill(present, false);
+                tables.spill(present);
             }
             keepTables();
             int low = blocks / 4;
             if (layout.freeBlocks() >= low) {
                 return true;
             }
-            tables.spill(present, false);
+            tables.spill(present);
             if (log.sweep()) {
-                layout.save(present, false);
+                layout.save(present);
             }
             for (int i = 0; i < blocks && layout.freeBlocks() < low; i++) {
                 if (!log.clearOne(present, false)) {
@@ -821,7 +821,7 @@ public final class FlashVault {
 
     private boolean flushed() {
         try {
-            tables.spill(present, false);
+            tables.spill(present);
             keepTables();
             return true;
         } catch (IllegalStateException e) {
@@ -863,9 +863,8 @@ public final class FlashVault {
             present = log.replay(present);
             versions.purge();
             log.watchAll();
-            layout.seal();
             log.sweep();
-            tables.spill(present, true);
+            tables.spill(present);
             tree.load(versions, chip);
             return true;
         } catch (IllegalStateException e) {
@@ -1252,17 +1251,17 @@ public final class FlashVault {
             alone = new boolean[n];
             order = new int[n];
             spare = new int[n];
-            clear();
+            spares = n;
+            for (int i = 0; i < n; i++) {
+                spare[i] = n - 1 - i;
+            }
         }
 
         void clear() {
-            size = 0;
-            aloneCount = 0;
-            spares = spare.length;
-            for (int i = 0; i < spare.length; i++) {
-                spare[i] = spare.length - 1 - i;
-                alone[i] = false;
+            for (int p = 0; p < size; p++) {
+                release(order[p]);
             }
+            size = 0;
         }
 
         boolean isUser(int slot) {
@@ -1420,7 +1419,10 @@ public final class FlashVault {
             return newest || sight.anyWithin(moments[slot], newer, but);
         }
 
-        /** A version that nobody before it can see hides nothing: so all behind it in one pass go with it. */
+        /**
+         * Lets go what is not needed. One that was taken out may go though it is seen, but only when nobody sees what
+         * was before it; then all that is older goes in the same pass, so that nothing comes to light again.
+         */
         void purge() {
             int kept = 0;
             int before = -1;
@@ -1597,6 +1599,10 @@ public final class FlashVault {
             noteUse();
         }
 
+        /**
+         * As behind a failed power: nobody knows how far the last log and the last states were written, so neither
+         * takes more.
+         */
         void clear() {
             logCount = 0;
             fresh = 0;
@@ -1613,7 +1619,21 @@ public final class FlashVault {
 
         private void noteUse() {
             for (int b = 0; b < blocks; b++) {
-                used[b] = uses(b) > 0;
+                used[b] = b < MASTERS;
+            }
+            for (int i = 0; i < logCount; i++) {
+                setUsed(logs[i]);
+            }
+            for (int r = 0; r < runCount; r++) {
+                for (int i = 0; i < runs[r].idCount; i++) {
+                    setUsed(runs[r].ids[i]);
+                }
+            }
+        }
+
+        private void setUsed(int block) {
+            if (block >= 0 && block < blocks) {
+                used[block] = true;
             }
         }
 
@@ -1694,7 +1714,7 @@ public final class FlashVault {
             return writing && i == logCount - 1;
         }
 
-        /** The last log takes no more records: behind a failed power nobody knows how far it was written. */
+        /** The last log takes no more records. */
         void seal() {
             writing = false;
             fresh = 0;
@@ -1791,10 +1811,10 @@ public final class FlashVault {
 
         // -- the state on the chip --
 
-        /** Anew: into the other of the two blocks, whatever lies at the end of this one. */
-        void save(int present, boolean anew) {
+        /** Into the other of the two blocks, if this one is full; the last state here stays until that is whole. */
+        void save(int present) {
             int n = describe(present);
-            if (!anew && n <= BLOCK - masterTop) {
+            if (n <= BLOCK - masterTop) {
                 chip.program(master * BLOCK + masterTop, page, MASTER_HEAD, n);
                 masterTop += n;
             } else {
@@ -1951,7 +1971,7 @@ public final class FlashVault {
         }
 
         /** What is known in memory alone goes to a table; the log need not be replayed up to here any more. */
-        void spill(int present, boolean anew) {
+        void spill(int present) {
             Run draft = layout.draft(0);
             buffered = 0;
             for (int p = 0; p < versions.size; p++) {
@@ -1968,7 +1988,7 @@ public final class FlashVault {
             pageOut(draft);
             layout.putDraft(0, 0);
             layout.passLog();
-            layout.save(present, anew);
+            layout.save(present);
             versions.allInTables();
             versions.purge();
         }
@@ -2021,7 +2041,7 @@ public final class FlashVault {
             pageOut(draft);
             grownMerges += draft.length > bytes ? 1 : 0;
             layout.putDraft(first, end);
-            layout.save(present, false);
+            layout.save(present);
         }
 
         private int leastCursor(int first, int end) {
@@ -2087,8 +2107,8 @@ public final class FlashVault {
 
         /** Every table is in order, and together they tell of each version that is not in memory alone. */
         boolean isSound() {
-            for (int slot = 0; slot < told.length; slot++) {
-                told[slot] = false;
+            for (int p = 0; p < versions.size; p++) {
+                told[versions.order[p]] = false;
             }
             for (int r = 0; r < layout.runCount; r++) {
                 if (!isInOrder(layout.runs[r])) {
@@ -2171,7 +2191,7 @@ public final class FlashVault {
             int block = layout.take();
             chip.erase(block);
             layout.addLog(block);
-            layout.save(present, false);
+            layout.save(present);
         }
 
         private void head(int kind, int keyLength, int length, int moment) {
@@ -2276,7 +2296,7 @@ public final class FlashVault {
          */
         boolean clearOne(int present, boolean any) {
             if (versions.aloneCount > 0) {
-                tables.spill(present, false);
+                tables.spill(present);
             }
             int i = lightestLog(any);
             if (i < 0) {
@@ -2301,7 +2321,7 @@ public final class FlashVault {
             }
             heavyClearings += moved > due ? 1 : 0;
             layout.dropLog(i);
-            tables.spill(present, false);
+            tables.spill(present);
             return true;
         }
 

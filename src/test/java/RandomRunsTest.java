@@ -281,17 +281,26 @@ public final class RandomRunsTest {
         return !pair.wrong;
     }
 
-    public static void main(String[] args) {
-        int runs = args.length > 0 ? Integer.parseInt(args[0]) : 3000;
-        int calls = args.length > 1 ? Integer.parseInt(args[1]) : 512;
-        long first = args.length > 2 ? Long.parseLong(args[2]) : 1;
+    private static int wrongRuns(int runs, int calls, long first) {
         int wrong = 0;
         for (long seed = first; seed < first + runs && wrong < 5; seed++) {
             if (!new RandomRunsTest(seed, calls).run()) {
                 wrong++;
             }
         }
-        System.out.println(wrong == 0 ? runs + " random runs are as due" : "random runs went wrong");
+        System.out.println(runs + " random runs of " + calls + " calls: " + wrong + " went wrong");
+        return wrong;
+    }
+
+    /** Without arguments: runs as long as the document allows, and some far longer, which wear the chip more. */
+    public static void main(String[] args) {
+        int wrong = 0;
+        if (args.length == 3) {
+            wrong = wrongRuns(Integer.parseInt(args[0]), Integer.parseInt(args[1]), Long.parseLong(args[2]));
+        } else {
+            wrong = wrongRuns(3000, 512, 1) + wrongRuns(60, 10000, 1000001);
+        }
+        System.out.println(wrong == 0 ? "all random runs are as due" : "random runs went wrong");
         if (wrong > 0) {
             System.exit(1);
         }
