@@ -66,6 +66,10 @@ public final class FlashVault {
     private static final int ENTRY_EXTRA = 10;
     private static final int SPILL_AT = 96;
 
+    /** No change, and no clearing of a block, begins more blocks, or more tables. */
+    private static final int CALL_BLOCKS = 6;
+    private static final int CALL_RUNS = 3;
+
     private final int blocks;
     private final Row tape = new Row(MOST_TAPE);
     private final Row result = new Row(MOST_RESULT);
@@ -786,24 +790,13 @@ public final class FlashVault {
     /** Done before a change is written: a change must never be without blocks in its midst. */
     private boolean roomMade() {
         try {
+            if (lacksReserve()) {
+                log.renew(present);
+            }
             if (versions.aloneCount >= SPILL_AT) {
-                tables.spill(present);
+                tables.spill(false, present);
             }
             keepTables();
-            int low = blocks / 4;
-            if (layout.freeBlocks() >= low) {
-                return true;
-            }
-            tables.spill(present);
-            if (log.sweep()) {
-                layout.save(present);
-            }
-            for (int i = 0; i < blocks && layout.freeBlocks() < low; i++) {
-                if (!log.clearOne(present, false)) {
-                    break;
-                }
-                keepTables();
-            }
             return true;
         } catch (IllegalStateException e) {
             return false;
@@ -821,7 +814,10 @@ public final class FlashVault {
 
     private boolean flushed() {
         try {
-            tables.spill(present);
+            if (lacksReserve()) {
+                log.renew(present);
+            }
+            tables.spill(false, present);
             keepTables();
             return true;
         } catch (IllegalStateException e) {
@@ -831,6 +827,9 @@ public final class FlashVault {
 
     private boolean merged(boolean whole) {
         try {
+            if (lacksReserve()) {
+                log.renew(present);
+            }
             if (whole) {
                 tables.merge(0, layout.runCount, LAST_LEVEL, present);
             } else {
@@ -844,8 +843,11 @@ public final class FlashVault {
 
     private boolean cleared() {
         try {
+            if (lacksReserve()) {
+                log.renew(present);
+            }
             keepTables();
-            log.clearOne(present, true);
+            log.clearOne(present);
             return true;
         } catch (IllegalStateException e) {
             return false;
@@ -864,7 +866,10 @@ public final class FlashVault {
             versions.purge();
             log.watchAll();
             log.sweep();
-            tables.spill(present);
+            if (lacksReserve()) {
+                log.renew(present);
+            }
+            tables.spill(false, present);
             tree.load(versions, chip);
             return true;
         } catch (IllegalStateException e) {
@@ -899,6 +904,25 @@ public final class FlashVault {
         present++;
         versions.include(batch, present);
         versions.purge();
+    }
+
+    /**
+     * Whether all is to be renewed before a call writes, because the call might leave fewer blocks free than a later
+     * renewal may take. So each call that writes begins with this, also the mount behind one that was cut.
+     *
+     * A renewal takes less than three eighths of the blocks: a record, and likewise its entry in a table, is shorter
+     * than what it counts for NEEDED, which is at most an eighth of the chip. Two blocks of a log written anew, one
+     * behind the other, hold more than one block's bytes, so the log has less than two eighths; the table has one.
+     *
+     * A call takes blocks for what is in memory alone, then for a merge of at most that and all tables (which lets
+     * those go), and for the log. Behind a renewal this fits beside the reserve: then nothing is in memory alone, and
+     * the one table has an eighth of the blocks at most.
+     */
+    private boolean lacksReserve() {
+        int reserve = blocks / 8 * 3;
+        int spilled = tables.aloneBlocks();
+        int taken = spilled + spilled + layout.tableBlocks() + CALL_BLOCKS;
+        return layout.freeBlocks() < reserve + taken || layout.runCount > MOST_RUNS - CALL_RUNS;
     }
 
     private void keepTables() {
@@ -1970,13 +1994,26 @@ public final class FlashVault {
             Row.copy(page, n, page, 0, buffered);
         }
 
-        /** What is known in memory alone goes to a table; the log need not be replayed up to here any more. */
-        void spill(int present) {
-            Run draft = layout.draft(0);
+        /** How many blocks a spill of what is in memory alone takes. */
+        int aloneBlocks() {
+            int bytes = 0;
+            for (int p = 0; p < versions.size; p++) {
+                int slot = versions.order[p];
+                bytes += versions.alone[slot] ? versions.keyLengths[slot] + ENTRY_EXTRA : 0;
+            }
+            return (bytes + BLOCK - 1) / BLOCK;
+        }
+
+        /**
+         * What is known in memory alone goes to a table, or all that is known, in place of all tables; the log need
+         * not be replayed up to here any more.
+         */
+        void spill(boolean all, int present) {
+            Run draft = layout.draft(all ? LAST_LEVEL : 0);
             buffered = 0;
             for (int p = 0; p < versions.size; p++) {
                 int slot = versions.order[p];
-                if (versions.alone[slot]) {
+                if (all || versions.alone[slot]) {
                     emit(versions.keys, slot * KEY_ROOM, versions.keyLengths[slot], versions.moments[slot],
                             versions.places[slot], versions.lengths[slot]);
                     draft.entries++;
@@ -1986,7 +2023,7 @@ public final class FlashVault {
                 }
             }
             pageOut(draft);
-            layout.putDraft(0, 0);
+            layout.putDraft(0, all ? layout.runCount : 0);
             layout.passLog();
             layout.save(present);
             versions.allInTables();
@@ -2172,7 +2209,8 @@ public final class FlashVault {
             for (int i = 0; i < batch.size; i++) {
                 int bytes = batch.keyLengths[i] + Math.max(batch.lengths[i], 0);
                 if (!layout.fits(bytes + RECORD_EXTRA)) {
-                    openBlock(present);
+                    openBlock();
+                    layout.save(present);
                 }
                 int kind = batch.lengths[i] < 0 ? RECORD_OUT : RECORD_VALUE;
                 head(kind, batch.keyLengths[i], Math.max(batch.lengths[i], 0), present + 1);
@@ -2181,17 +2219,18 @@ public final class FlashVault {
                 append(bytes + RECORD_EXTRA);
             }
             if (!layout.fits(RECORD_EXTRA)) {
-                openBlock(present);
+                openBlock();
+                layout.save(present);
             }
             head(RECORD_DONE, 0, batch.size, present + 1);
             append(RECORD_EXTRA);
         }
 
-        private void openBlock(int present) {
+        /** A replay meets the block only once a state with it is saved. */
+        private void openBlock() {
             int block = layout.take();
             chip.erase(block);
             layout.addLog(block);
-            layout.save(present);
         }
 
         private void head(int kind, int keyLength, int length, int moment) {
@@ -2279,11 +2318,10 @@ public final class FlashVault {
             return block >= 0 && block < loads.length ? loads[block] : 0;
         }
 
-        private int lightestLog(boolean any) {
-            weighLogs();
-            int lightest = -1;
-            for (int i = 0; i < layout.logCount; i++) {
-                if ((any || !layout.isWriting(i)) && (lightest < 0 || loadOf(i) < loadOf(lightest))) {
+        private int lightestLog() {
+            int lightest = 0;
+            for (int i = 1; i < layout.logCount; i++) {
+                if (loadOf(i) < loadOf(lightest)) {
                     lightest = i;
                 }
             }
@@ -2294,56 +2332,74 @@ public final class FlashVault {
          * Clears the block in which the least is needed. Memory goes to tables before, that no replay needs the
          * block, and behind, with the new places; the state that is saved last lets the block go.
          */
-        boolean clearOne(int present, boolean any) {
+        void clearOne(int present) {
             if (versions.aloneCount > 0) {
-                tables.spill(present);
+                tables.spill(false, present);
             }
-            int i = lightestLog(any);
-            if (i < 0) {
-                return false;
+            if (layout.logCount == 0) {
+                return;
             }
-            int block = layout.logs[i];
+            weighLogs();
+            int i = lightestLog();
             if (layout.isWriting(i)) {
                 layout.seal();
             }
-            int due = loadOf(i);
+            moveOut(i);
+            layout.dropLog(i);
+            tables.spill(false, present);
+        }
+
+        /**
+         * Clears all blocks and writes one table. No state is saved before the last one, which lets all old blocks
+         * go: where the power fails before that, every block that was taken is free again.
+         */
+        void renew(int present) {
+            weighLogs();
+            layout.seal();
+            int old = layout.logCount;
+            for (int i = 0; i < old; i++) {
+                moveOut(i);
+            }
+            for (int i = 0; i < old; i++) {
+                layout.dropLog(0);
+            }
+            // What was taken out need not be told any more: nothing is left that it hides.
+            versions.allInTables();
+            versions.purge();
+            tables.spill(true, present);
+        }
+
+        /** What is needed of a block is written anew at the log's end. */
+        private void moveOut(int i) {
+            int block = i >= 0 && i < layout.logCount ? layout.logs[i] : -1;
             int moved = 0;
             for (int p = 0; p < versions.size; p++) {
                 int slot = versions.order[p];
                 if (versions.lengths[slot] >= 0 && versions.places[slot] / BLOCK == block) {
                     int n = versions.keyLengths[slot] + versions.lengths[slot] + RECORD_EXTRA;
                     if (!layout.fits(n)) {
-                        openBlock(present);
+                        openBlock();
                     }
-                    moveRecord(slot, n);
+                    watch(slot);
+                    chip.copyOut(versions.places[slot], page, 0, n);
+                    Row.number(page, 0, 1, RECORD_MOVED);
+                    int place = layout.point();
+                    append(n);
+                    versions.relocate(slot, place);
                     moved += n;
                 }
             }
-            heavyClearings += moved > due ? 1 : 0;
-            layout.dropLog(i);
-            tables.spill(present);
-            return true;
-        }
-
-        private void moveRecord(int slot, int n) {
-            watch(slot);
-            chip.copyOut(versions.places[slot], page, 0, n);
-            Row.number(page, 0, 1, RECORD_MOVED);
-            int place = layout.point();
-            append(n);
-            versions.relocate(slot, place);
+            heavyClearings += moved > loadOf(i) ? 1 : 0;
         }
 
         /** Lets the blocks go in which nothing is needed; they are free with the next state. */
-        boolean sweep() {
+        void sweep() {
             weighLogs();
-            int before = layout.logCount;
-            for (int i = before - 1; i >= 0; i--) {
+            for (int i = layout.logCount - 1; i >= 0; i--) {
                 if (!layout.isWriting(i) && loadOf(i) == 0) {
                     layout.dropLog(i);
                 }
             }
-            return layout.logCount < before;
         }
 
         // -- mending --
