@@ -8,7 +8,7 @@ import java.util.NoSuchElementException;
  * tables, from where on the log is to be replayed). A state is one part with an end mark, so each change of the
  * layout is done or not done. The log holds every record with its value; a change is its records and a DONE mark.
  * Tables hold sorted entries that say where in the log a record lies. All that is in memory is made anew from the
- * chip by mount.
+ * chip by mount. Enough blocks stay free behind every call to write all that is needed anew (see lacksReserve).
  *
  * Keys inside begin with a byte that tells whose they are: USER, NODE (a file or directory) or PIECE (of a file).
  */
@@ -42,6 +42,7 @@ public final class FlashVault {
     private static final int OUT_ON_CHIP = 65535;
     private static final int LATEST = 2147483647;
     private static final int NOBODY = -1;
+    private static final int ALL_BLOCKS = -1;
 
     /** Never 255: so an end mark that was not written can be told from one that was. */
     private static final int END = 90;
@@ -66,7 +67,7 @@ public final class FlashVault {
     private static final int ENTRY_EXTRA = 10;
     private static final int SPILL_AT = 96;
 
-    /** No change, and no clearing of a block, begins more blocks, or more tables. */
+    /** A change begins at most five blocks, a clearing three; no call writes more tables than two, but merged ones. */
     private static final int CALL_BLOCKS = 6;
     private static final int CALL_RUNS = 3;
 
@@ -2344,7 +2345,7 @@ public final class FlashVault {
             if (layout.isWriting(i)) {
                 layout.seal();
             }
-            moveOut(i);
+            moveOut(layout.logs[i], loadOf(i));
             layout.dropLog(i);
             tables.spill(false, present);
         }
@@ -2354,12 +2355,9 @@ public final class FlashVault {
          * go: where the power fails before that, every block that was taken is free again.
          */
         void renew(int present) {
-            weighLogs();
             layout.seal();
             int old = layout.logCount;
-            for (int i = 0; i < old; i++) {
-                moveOut(i);
-            }
+            moveOut(ALL_BLOCKS, versions.needed(NOBODY));
             for (int i = 0; i < old; i++) {
                 layout.dropLog(0);
             }
@@ -2369,13 +2367,12 @@ public final class FlashVault {
             tables.spill(true, present);
         }
 
-        /** What is needed of a block is written anew at the log's end. */
-        private void moveOut(int i) {
-            int block = i >= 0 && i < layout.logCount ? layout.logs[i] : -1;
+        /** What is needed of a block, or of all, is written anew at the log's end. */
+        private void moveOut(int block, int needed) {
             int moved = 0;
             for (int p = 0; p < versions.size; p++) {
                 int slot = versions.order[p];
-                if (versions.lengths[slot] >= 0 && versions.places[slot] / BLOCK == block) {
+                if (versions.lengths[slot] >= 0 && (block == ALL_BLOCKS || versions.places[slot] / BLOCK == block)) {
                     int n = versions.keyLengths[slot] + versions.lengths[slot] + RECORD_EXTRA;
                     if (!layout.fits(n)) {
                         openBlock();
@@ -2389,7 +2386,7 @@ public final class FlashVault {
                     moved += n;
                 }
             }
-            heavyClearings += moved > loadOf(i) ? 1 : 0;
+            heavyClearings += moved > needed ? 1 : 0;
         }
 
         /** Lets the blocks go in which nothing is needed; they are free with the next state. */
