@@ -94,6 +94,10 @@ public final class Model {
         return transactions[t];
     }
 
+    boolean isOpen(int t) {
+        return transactions[t].open;
+    }
+
     private static Version versionAt(List<Version> versions, int moment) {
         Version seen = null;
         for (Version v : versions) {

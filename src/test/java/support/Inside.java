@@ -1,0 +1,62 @@
+import java.lang.reflect.Field;
+
+/** Looks into a vault: for what the document says of the chip and cannot be asked from outside. */
+public final class Inside {
+    private static Field field(Object of, String name) {
+        try {
+            Field f = of.getClass().getDeclaredField(name);
+            f.setAccessible(true);
+            return f;
+        } catch (NoSuchFieldException e) {
+            throw new Error(e);
+        }
+    }
+
+    /** The path goes from field to field. */
+    static Object get(Object of, String... path) {
+        Object at = of;
+        try {
+            for (String name : path) {
+                at = field(at, name).get(at);
+            }
+            return at;
+        } catch (IllegalAccessException e) {
+            throw new Error(e);
+        }
+    }
+
+    static int number(Object of, String... path) {
+        return (int) get(of, path);
+    }
+
+    static void set(Object of, String name, int value) {
+        try {
+            field(of, name).setInt(of, value);
+        } catch (IllegalAccessException e) {
+            throw new Error(e);
+        }
+    }
+
+    /** How many bytes were written on the chip, and not erased since. */
+    static int written(FlashVault v) {
+        int sum = 0;
+        for (int top : (int[]) get(v, "chip", "tops")) {
+            sum += top;
+        }
+        return sum;
+    }
+
+    /** The blocks of the log. */
+    static int[] logs(FlashVault v) {
+        return java.util.Arrays.copyOf((int[]) get(v, "layout", "logs"), number(v, "layout", "logCount"));
+    }
+
+    static int tables(FlashVault v) {
+        return number(v, "layout", "runCount");
+    }
+
+    /** How many versions no table tells of. */
+    static int alone(FlashVault v) {
+        return number(v, "versions", "aloneCount");
+    }
+}
