@@ -34,8 +34,27 @@ public final class EdgeCareTest {
         }
         e.is(144 * 25, "flush").sound(144);
         due(e, "in memory alone", Inside.alone(e.vault), 0);
+        severalBlocks();
         Due g = Due.edge("Promise 12", "Answers NEEDED");
         g.is(0, "flush").commit("a", "1").is(26, "flush").commitOut("a").is(0, "flush").commit("a", "1").is(0, "begin").commitOut("a").is(51, "flush");
+    }
+
+    /** The longest keys: their entries go over the ends of blocks. */
+    private static void severalBlocks() {
+        Due d = Due.edge("Promise 12", "What lies in memory alone goes to tables on the CHIP");
+        for (int i = 0; i < 3; i++) {
+            d.is(0, "begin");
+            for (int k = 0; k < 32; k++) {
+                d.tape(i * 32 + k, 40).is(k + 1, "put", 0, 40);
+            }
+            d.is(i + 1, "commit", 0);
+        }
+        d.is(96 * 64, "flush");
+        due(d, "blocks of tables, more than one", Inside.tableBlocks(d.vault) > 1 ? 1 : 0, 1);
+        d.sound(96).is(3, "mount").sound(96).is(96 * 64, "compact", true).sound(96).is(3, "mount").sound(96).tape(95, 40).is(0, "begin").is(0, "get", 0);
+        for (int i = 0; i < 95; i += 10) {
+            d.tape(i, 40).is(40, "seek", 0, true).is((i + 1) * 0x0101010101010101L, "word", 0);
+        }
     }
 
     private static void compact() {
@@ -55,12 +74,19 @@ public final class EdgeCareTest {
             tables = now;
         }
         due(d, "tables behind all steps", tables, 1);
+        // two tables on different levels are merged by a step too
+        for (int i = 0; i < 3; i++) {
+            d.commit("0", "" + i).is(78, "flush");
+            due(d, "tables, a new one beside the merged", Inside.tables(d.vault), 2);
+            d.is(78, "compact", false).sound(3);
+            due(d, "tables, these two merged", Inside.tables(d.vault), 1);
+        }
         // a whole one with a part in memory alone, and of what was taken out in the meantime
         d.commit("1", "w").is(78, "flush").commitOut("2").is(52, "flush").commit("3", "").is(77, "compact", true);
         due(d, "tables behind a whole one", Inside.tables(d.vault), 1);
-        d.is(77, "compact", true).sound(3).is(6, "mount").is(77, "compact", true).sound(3);
+        d.is(77, "compact", true).sound(3).is(9, "mount").is(77, "compact", true).sound(3);
         // nothing is left
-        d.commitOut("0").commitOut("1").commitOut("3").is(0, "flush").is(0, "compact", true).sound(0).is(9, "mount").sound(0);
+        d.commitOut("0").commitOut("1").commitOut("3").is(0, "flush").is(0, "compact", true).sound(0).is(12, "mount").sound(0);
         due(d, "tables of nothing any more", Inside.tables(d.vault), 0);
         Due g = Due.edge("Promise 13", "Answers NEEDED");
         g.is(0, "compact", true).commit("a", "1").is(26, "compact", false).is(0, "begin").commitOut("a").is(51, "compact", true).is(51, "compact", false);
@@ -81,6 +107,14 @@ public final class EdgeCareTest {
         due(d, "the first stays", contains(after, before[0]), 1);
         due(d, "the second is cleared", contains(after, before[1]), 0);
         due(d, "the third stays", contains(after, before[2]), 1);
+        // now the least is needed in the third, then in the first
+        d.commitOut("f").commit("f", "6").commitOut("b").is(1025 + 26 + 26, "collect").sound(3);
+        due(d, "the first stays", contains(Inside.logs(d.vault), before[0]), 1);
+        due(d, "the third is cleared", contains(Inside.logs(d.vault), before[2]), 0);
+        d.commit("g", "7".repeat(900)).commit("h", "8".repeat(1000)).commit("i", "9".repeat(900)).commitOut("a").commit("a", "1");
+        d.is(26 * 3 + 925 + 1025 + 925, "collect");
+        due(d, "the first is cleared", contains(Inside.logs(d.vault), before[0]), 0);
+        d.sound(6).is(16, "mount").sound(6).is(0, "begin").has(0, "d", "4").has(0, "a", "1");
         Due e = Due.edge("Promise 14", "that is written anew elsewhere");
         e.commit("a", "1".repeat(1000)).commit("b", "").is(0, "begin").commit("a", "2").commitOut("b").file("f", 1).tape(7, 2000).is(2000, "write", 1, 0);
         for (int i = 0; i < 20; i++) {
@@ -231,7 +265,54 @@ public final class EdgeCareTest {
             e.is(value ? 1 : -1, "check");
             cells[at + i] ^= 1;
         }
-        e.is(1, "check").is(29 + 3, "flush").is(1, "check");
+        e.is(1, "check").is(32, "flush").is(1, "check");
+        // the record of an empty value, which nothing but its key tells
+        Due f = Due.edge("Promise 20", "else -1");
+        f.commit("abc", "").is(27, "flush").is(1, "check");
+        byte[] others = (byte[]) Inside.get(f.vault, "chip", "cells");
+        int key = Inside.logs(f.vault)[0] * 2048 + 9;
+        others[key] ^= 1;
+        f.is(-1, "check").is(0, "faults", 1).is(1, "mount").is(-1, "check");
+        due(f, "records that were not where a table said, some", f.vault.faults(1) > 0 ? 1 : 0, 1);
+        notInOrder();
+    }
+
+    private static void notInOrder() {
+        Due d = Due.edge("Promise 20", "if all of it is there and in order on the CHIP and in memory");
+        d.commit("a", "1").commit("b", "1").is(52, "flush").is(2, "check");
+        // two entries of a table, each with 10 bytes and the key with one before it, change places
+        byte[] cells = (byte[]) Inside.get(d.vault, "chip", "cells");
+        int table = Inside.tableBlock(d.vault) * 2048;
+        swap(cells, table, table + 12, 12);
+        d.is(-1, "check");
+        swap(cells, table, table + 12, 12);
+        d.is(2, "check");
+        // a block that is in two places at once
+        Object layout = Inside.get(d.vault, "layout");
+        int[] logs = (int[]) Inside.get(layout, "logs");
+        int n = Inside.number(layout, "logCount");
+        logs[n] = logs[0];
+        Inside.set(layout, "logCount", n + 1);
+        d.is(-1, "check");
+        Inside.set(layout, "logCount", n);
+        d.is(2, "check");
+        // a table that is said to be longer or shorter than it is
+        Object run = ((Object[]) Inside.get(layout, "runs"))[0];
+        int length = Inside.number(run, "length");
+        for (int wrong : new int[] {length - 1, length + 1, length - 12, 0}) {
+            Inside.set(run, "length", wrong);
+            d.is(-1, "check");
+        }
+        Inside.set(run, "length", length);
+        d.is(2, "check");
+    }
+
+    private static void swap(byte[] row, int i, int j, int n) {
+        for (int k = 0; k < n; k++) {
+            byte b = row[i + k];
+            row[i + k] = row[j + k];
+            row[j + k] = b;
+        }
     }
 
     public static void main(String[] args) {

@@ -1,3 +1,4 @@
+import java.nio.charset.StandardCharsets;
 import java.util.Arrays;
 import java.util.Random;
 
@@ -18,6 +19,8 @@ public final class EdgeRunsTest {
     private final int calls;
     private final int wrongs;
     private final int cuts;
+    /** How many writes come before a commit. */
+    private final int patience;
 
     private EdgeRunsTest(long seed, int calls) {
         random = new Random(seed);
@@ -25,6 +28,7 @@ public final class EdgeRunsTest {
         pair = new Pair("edges, seed " + seed, random.nextInt(3));
         wrongs = pick(new int[] {0, 5, 30});
         cuts = pick(new int[] {0, 2, 10});
+        patience = pick(new int[] {1, 3, 12, 60});
     }
 
     private int pick(int[] of) {
@@ -85,18 +89,14 @@ public final class EdgeRunsTest {
 
     private void keys() {
         int t = transaction();
-        switch (random.nextInt(12)) {
+        if (pair.model.count(2) < 2 || one(patience * 3)) {
+            pair.call("begin");
+        }
+        switch (random.nextInt(7 + 4 * patience)) {
             case 0 -> pair.call("begin");
-            case 1, 2, 3 -> {
-                byte[] key = row(length(KEYS, 40), false);
-                tape(join(key, row(length(VALUES, 1000), false)));
-                pair.call("put", t, random.nextInt(100) < wrongs ? at(1, 40) : key.length);
-            }
-            case 4 -> {
-                tape(row(length(KEYS, 40), false));
-                pair.call("delete", t);
-            }
-            case 5 -> {
+            case 1, 2 -> pair.call("commit", t);
+            case 3 -> pair.call(one(4) ? "abort" : "commit", t);
+            case 4, 5 -> {
                 tape(row(length(KEYS, 40), false));
                 pair.call("get", t);
                 pair.call("word", at(0, Math.max(0, pair.model.count(8) - 1)));
@@ -106,8 +106,18 @@ public final class EdgeRunsTest {
                 pair.call("seek", t, random.nextBoolean());
                 pair.call("word", at(0, Math.max(0, pair.model.count(8) - 1)));
             }
-            case 7, 8, 9, 10 -> pair.call("commit", t);
-            default -> pair.call("abort", t);
+            default -> intend(t);
+        }
+    }
+
+    private void intend(int t) {
+        byte[] key = row(length(KEYS, 40), false);
+        if (one(4)) {
+            tape(key);
+            pair.call("delete", t);
+        } else {
+            tape(join(key, row(length(VALUES, 1000), false)));
+            pair.call("put", t, random.nextInt(100) < wrongs ? at(1, 40) : key.length);
         }
     }
 
@@ -115,28 +125,59 @@ public final class EdgeRunsTest {
         return random.nextInt(100) < wrongs ? at(0, 200) : random.nextInt(2 + (pair.model.count(1) == 0 ? 3 : Math.min(pair.model.count(6), 5)));
     }
 
+    private byte[] name() {
+        return row(length(NAMES, 30), true);
+    }
+
+    /** The number of one that is there, or of none. */
+    private int node() {
+        int number = 1 + random.nextInt(6);
+        return pair.model.nameOf(number) == null ? 1 : number;
+    }
+
+    private byte[] nameOf(int number) {
+        String s = pair.model.nameOf(number);
+        return s == null || one(6) ? name() : s.getBytes(StandardCharsets.ISO_8859_1);
+    }
+
+    private int directoryOf(int number) {
+        return one(6) ? number() : pair.model.parentOf(number);
+    }
+
+    /** From the root on. */
+    private byte[] path(int number) {
+        byte[] path = nameOf(number);
+        int above = pair.model.parentOf(number);
+        for (int i = 0; i < 10 && above != 0; i++) {
+            path = join(join(nameOf(above), new byte[] {47}), path);
+            above = pair.model.parentOf(above);
+        }
+        return path;
+    }
+
     private void files() {
         switch (random.nextInt(11)) {
             case 0, 1 -> {
-                tape(row(length(NAMES, 30), true));
-                pair.call("make", number(), one(3));
+                boolean again = one(5);
+                int like = node();
+                tape(again ? nameOf(like) : name());
+                pair.call("make", again ? directoryOf(like) : number(), one(2));
             }
             case 2 -> {
-                tape(row(length(NAMES, 30), true));
-                pair.call("remove", number());
+                int number = node();
+                tape(nameOf(number));
+                pair.call("remove", directoryOf(number));
             }
             case 3 -> {
-                byte[] name = row(length(NAMES, 30), true);
-                tape(join(name, one(5) ? name : row(length(NAMES, 30), true)));
-                int from = number();
-                pair.call("rename", from, one(3) ? from : number(), random.nextInt(100) < wrongs ? at(1, 30) : name.length);
+                int number = node();
+                int other = node();
+                byte[] name = nameOf(number);
+                boolean onto = one(3);
+                tape(join(name, onto ? nameOf(other) : one(8) ? name : name()));
+                pair.call("rename", directoryOf(number), onto ? directoryOf(other) : number(), random.nextInt(100) < wrongs ? at(1, 30) : name.length);
             }
             case 4 -> {
-                byte[] path = row(one(9) ? 0 : length(NAMES, 30), true);
-                for (int i = random.nextInt(3); i > 0; i--) {
-                    path = join(join(path, new byte[] {47}), row(length(NAMES, 30), true));
-                }
-                tape(path);
+                tape(one(9) ? new byte[0] : one(9) ? join(path(node()), new byte[] {47}) : path(node()));
                 pair.call("find");
             }
             case 5, 6 -> {

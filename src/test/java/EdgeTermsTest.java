@@ -9,10 +9,12 @@ public final class EdgeTermsTest {
     /** The log goes around the chip more than twice, and so does a change of keys in the next test. */
     private static void chipGoesAround() {
         Due d = Due.edge(TERMS, "A BLOCK is erased as a whole (all its bytes are 255 then), and a byte that is erased can be written once");
+        isErased(d);
         d.file("f", 1);
         for (int i = 0; i < 150; i++) {
             d.tape(i, 2000).is(2000, "write", 1, 0);
         }
+        isErased(d);
         d.sound(1).is(151, "mount").sound(1).is(8, "read", 1, 1992, 1000).result("\u0095".repeat(8));
         Due e = Due.edge(TERMS, "THE CHIP has BLOCKS of 2048 bytes");
         for (int i = 0; i < 40; i++) {
@@ -24,6 +26,14 @@ public final class EdgeTermsTest {
             e.is(i + 1, "commit", 0);
         }
         e.sound(4).is(40, "mount").sound(4).needed(4 * 1024);
+    }
+
+    /** Behind what was written of each block. */
+    private static void isErased(Due d) {
+        int n = Inside.notErased(d.vault);
+        if (n != 0) {
+            Due.tell(d.title + ": " + n + " bytes are not 255");
+        }
     }
 
     private static void limit() {

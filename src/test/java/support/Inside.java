@@ -55,6 +55,30 @@ public final class Inside {
         return number(v, "layout", "runCount");
     }
 
+    static int tableBlocks(FlashVault v) {
+        int n = 0;
+        for (int i = 0; i < tables(v); i++) {
+            n += number(((Object[]) get(v, "layout", "runs"))[i], "idCount");
+        }
+        return n;
+    }
+
+    /** The first block of the newest table. */
+    static int tableBlock(FlashVault v) {
+        return ((int[]) get(((Object[]) get(v, "layout", "runs"))[0], "ids"))[0];
+    }
+
+    /** How many bytes behind what was written of a block are not erased. */
+    static int notErased(FlashVault v) {
+        byte[] cells = (byte[]) get(v, "chip", "cells");
+        int[] tops = (int[]) get(v, "chip", "tops");
+        int n = 0;
+        for (int i = 0; i < cells.length; i++) {
+            n += i % 2048 >= tops[i / 2048] && cells[i] != (byte) 255 ? 1 : 0;
+        }
+        return n;
+    }
+
     /** How many versions no table tells of. */
     static int alone(FlashVault v) {
         return number(v, "versions", "aloneCount");

@@ -94,9 +94,22 @@ public final class Model {
         return transactions[t];
     }
 
+    // ---- what tests ask beside the face ----
+
     boolean isOpen(int t) {
         return transactions[t].open;
     }
+
+    /** Null if there is none of this number, or for the root. */
+    String nameOf(int number) {
+        return nodes.containsKey(number) ? nodes.get(number).name : null;
+    }
+
+    int parentOf(int number) {
+        return nodes.containsKey(number) ? nodes.get(number).parent : 0;
+    }
+
+    // ---- helpers again ----
 
     private static Version versionAt(List<Version> versions, int moment) {
         Version seen = null;
