@@ -4,19 +4,22 @@ import java.nio.file.Path;
 import java.util.ArrayList;
 import java.util.List;
 import java.util.Map;
+import java.util.Set;
 import java.util.TreeMap;
+import java.util.TreeSet;
 import java.util.regex.Matcher;
 import java.util.regex.Pattern;
 import java.util.stream.Stream;
 
 /**
- * Each sentence of 'Terms' and of the promises, and each part of one between semicolons, is named by a test of its
- * boundary cases (src/test/java/Edge*Test.java); and what these tests name is in the document, where they say.
+ * Each sentence of 'What it is', of 'Terms' and of the promises, and each part of one between semicolons, is named by a
+ * test of its boundary cases (src/test/java/Edge*Test.java); and what these tests name is in the document, where they
+ * say. Of the document's other parts FaceTest looks at 'The public face'; 'Not promised' asks for nothing.
  */
 public final class SentencesTest {
     private static final Path DOCUMENT = Path.of("../shared/DOC.md");
     private static final Path TESTS = Path.of("src/test/java");
-    private static final Pattern NAMED = Pattern.compile("(?:TERMS|\"(Promise \\d+)\"),\\s*\"((?:[^\"\\\\]|\\\\.)*)\"");
+    private static final Pattern NAMED = Pattern.compile("(TERMS|WHOLE|\"Promise \\d+\"),\\s*\"((?:[^\"\\\\]|\\\\.)*)\"");
 
     /** What tells of no case that a test could look at. */
     private static final List<String> WITHOUT_CASES = List.of(
@@ -25,6 +28,13 @@ public final class SentencesTest {
             "MOMENTS are numbers.",
             "POWER.");
 
+    /** The document's parts beside the promises. */
+    private static final String WHOLE = "What it is";
+    private static final String FACE = "The public face";
+    private static final String TERMS = "Terms";
+    private static final String NOT_PROMISED = "Not promised";
+    private static final int PROMISES = 29;
+
     private static int wrong = 0;
 
     private static void tell(String what) {
@@ -32,17 +42,28 @@ public final class SentencesTest {
         System.out.println(what);
     }
 
-    /** The text of each part of the document that is to be tested, by "Terms" or "Promise n". */
+    /** The text of each part of the document, by its heading, of a promise without its name. */
     private static Map<String, String> places() throws IOException {
         Map<String, String> places = new TreeMap<>();
-        for (String part : Files.readString(DOCUMENT).split("(?m)^## ")) {
-            Matcher m = Pattern.compile("(?s)\\A(Terms|Promise \\d+)(?:: [^\\n]*)?\\n(.*)\\z").matcher(part);
-            if (m.find()) {
-                String text = m.group(2).replaceAll("```(text)?", "").replaceAll("`[^`]*`:", "");
-                places.put(m.group(1), text.replaceAll("\\s+", " ").trim());
-            }
+        String document = Files.readString(DOCUMENT);
+        String[] parts = document.split("(?m)^## ");
+        for (int i = 1; i < parts.length; i++) {
+            String heading = parts[i].substring(0, parts[i].indexOf('\n'));
+            String text = parts[i].substring(heading.length()).replaceAll("```(text)?", "").replaceAll("`[^`]*`:", "");
+            places.put(heading.replaceAll(": .*", ""), text.replaceAll("\\s+", " ").trim());
+        }
+        if (!parts[0].strip().equals("# FlashVault")) {
+            tell("the document does not begin with its name alone");
         }
         return places;
+    }
+
+    private static Set<String> knownPlaces() {
+        Set<String> known = new TreeSet<>(List.of(WHOLE, FACE, TERMS, NOT_PROMISED));
+        for (int i = 1; i <= PROMISES; i++) {
+            known.add("Promise " + i);
+        }
+        return known;
     }
 
     private static Map<String, List<String>> named() throws IOException {
@@ -51,7 +72,7 @@ public final class SentencesTest {
             for (Path file : files.filter(f -> f.getFileName().toString().matches("Edge\\w*Test\\.java")).toList()) {
                 Matcher m = NAMED.matcher(Files.readString(file));
                 while (m.find()) {
-                    String place = m.group(1) == null ? "Terms" : m.group(1);
+                    String place = m.group(1).equals("TERMS") ? TERMS : m.group(1).equals("WHOLE") ? WHOLE : m.group(1).replace("\"", "");
                     named.computeIfAbsent(place, p -> new ArrayList<>()).add(m.group(2));
                 }
             }
@@ -95,12 +116,13 @@ public final class SentencesTest {
     public static void main(String[] args) throws IOException {
         Map<String, String> places = places();
         Map<String, List<String>> named = named();
+        if (!places.keySet().equals(knownPlaces()) || !places.keySet().containsAll(named.keySet())) {
+            tell("the places are not those of the document: " + places.keySet() + ", " + named.keySet());
+        }
         int n = 0;
+        places.keySet().removeAll(List.of(FACE, NOT_PROMISED));
         for (Map.Entry<String, String> e : places.entrySet()) {
             n += sentences(e.getKey(), e.getValue(), named.getOrDefault(e.getKey(), List.of()));
-        }
-        if (places.size() != 30 || !places.keySet().containsAll(named.keySet())) {
-            tell("the places are not those of the document: " + places.keySet() + ", " + named.keySet());
         }
         System.out.println(wrong == 0 ? "all " + n + " sentences have tests" : wrong + " things are not as due");
         if (wrong != 0) {

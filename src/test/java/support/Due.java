@@ -50,6 +50,10 @@ public final class Due {
         return this;
     }
 
+    int calls() {
+        return calls;
+    }
+
     private void called() {
         calls++;
         if (keepsToMostCalls && calls == MOST_CALLS + 1) {
